@@ -519,17 +519,36 @@ public final class ParishYears {
         return false;
     }
 
-    /** The year of one PARISH. Its numbers always stand within the document's bounds, so none divides by 0. */
+    /** The year of one PARISH. What divides is set by its own methods alone, which let nothing below 1 in. */
     private static final class Parish {
-        long name;
-        int months = 2;
-        int days = 2;
-        int week = 2;
-        int put;
-        int every = 1;
-        int start;
+        private long name;
+        private int start;
+        private int months = 1;
+        private int days = 1;
+        private int week = 1;
+        private int put;
+        private int every = 1;
 
         Parish() {
+        }
+
+        /** It is told anew, so it has no 'leap' yet. */
+        void tellName(long newName, int newStart) {
+            name = newName;
+            start = newStart;
+            put = 0;
+            every = 1;
+        }
+
+        void tellYear(int newMonths, int newDays, int newWeek) {
+            months = Math.max(1, newMonths);
+            days = Math.max(1, newDays);
+            week = Math.max(1, newWeek);
+        }
+
+        void tellLeap(int newPut, int newEvery) {
+            put = Math.max(0, newPut);
+            every = Math.max(1, newEvery);
         }
 
         void copyFrom(Parish other) {
@@ -703,14 +722,12 @@ public final class ParishYears {
                 return;
             }
             tape.advance();
-            Parish told = parish[parishes];
-            told.name = takeNewName(tape);
-            told.months = tape.takeNumber(2, 13);
-            told.days = tape.takeNumber(2, 30);
-            told.week = tape.takeNumber(2, 9);
-            told.start = tape.takeNumber(0, 999);
-            told.put = 0;
-            told.every = 1;
+            long name = takeNewName(tape);
+            int months = tape.takeNumber(2, 13);
+            int days = tape.takeNumber(2, 30);
+            int week = tape.takeNumber(2, 9);
+            parish[parishes].tellName(name, tape.takeNumber(0, 999));
+            parish[parishes].tellYear(months, days, week);
             parishes++;
         }
 
@@ -720,13 +737,12 @@ public final class ParishYears {
             if (!hasParish(p)) {
                 return;
             }
-            Parish told = parish[p];
-            if (told.put > 0) {
+            if (parish[p].put > 0) {
                 tape.fail(BAD_NAME);
             }
             tape.advance();
-            told.put = tape.takeNumber(1, 9);
-            told.every = tape.takeNumber(1, 9);
+            int put = tape.takeNumber(1, 9);
+            parish[p].tellLeap(put, tape.takeNumber(1, 9));
         }
 
         private void readFeast(Tape tape) {
