@@ -16,6 +16,7 @@ public final class AheadTest {
         drift();
         tune();
         agree();
+        mostToAgree();
         match();
         reform();
         play();
@@ -99,7 +100,8 @@ public final class AheadTest {
         // p: 2 3 0, q: 0 0 1
         check.due("17 HELD: on the third day", z.meet(0, 1), 2);
         // p's YEARS have 391 days, q's 390: g falls 256 days behind f first, then each time a day less
-        ParishYears far = Check.valleyOf("parish p 13 30 9 0;leap p 1 1;parish q 13 30 9 0;feast f p 0 0;feast g q 8 16;");
+        ParishYears far = Check.valleyOf("parish p 13 30 9 0;leap p 1 1;parish q 13 30 9 0;"
+            + "feast f p 0 0;feast g q 8 16;");
         check.due("17 in 256 * 391 days", far.meet(0, 1), -1);
         far.days(96);
         check.due("17 in 100000", far.meet(0, 1), -1);
@@ -124,7 +126,11 @@ public final class AheadTest {
         check.due("18 fair(-1)", x.fair(-1), -1);
         ParishYears y = Check.valleyOf("parish a 2 2 9 1;parish b 2 2 8 1;parish c 2 2 7 1;parish d 2 2 5 1;");
         check.due("18 fair(15)", y.fair(15), 2519);
-        y.days(1);
+        for (int p = 0; p < 4; p++) {
+            y.hold(p);
+        }
+        check.due("18 fair(15), all HELD", y.fair(15), 2520);
+        y.days(2);
         check.due("18 fair(15)", y.fair(15), 2518);
         ParishYears z = Check.valleyOf("parish a 2 2 4 0;parish b 2 2 2 1;");
         check.due("18 never", z.fair(3), -1);
@@ -227,10 +233,10 @@ public final class AheadTest {
     }
 
     private static void agreeFar() {
-        // p 12 20 and q's 12 20 of days put in never: q has MONTH 2, DATE 8 on days put in
+        // q's ninth day put in is its MONTH 2, DATE 8
         ParishYears x = Check.valleyOf("parish p 13 30 2 69;parish q 2 2 2 0;leap q 9 9;");
         x.skip(1, 12);
-        // p 2 9, q 2 8: p must skip 389, q can't
+        // p 2 9, q 2 8: p comes to it in its next YEAR
         check.due("22 agree(0, 1)", x.agree(0, 1), 389);
         ParishYears y = Check.valleyOf("parish p 13 30 2 69;leap p 9 1;parish q 2 2 2 0;leap q 9 9;");
         y.skip(1, 12);
@@ -240,6 +246,18 @@ public final class AheadTest {
         check.due("23 ahead of any", z.agreeing(), -1);
         check.due("22 by none", z.agree(0, 1), -1);
         check.due("23 ahead of any", z.agreeing(), -1);
+    }
+
+    /** p's days put in come each 9 YEARS, at its COUNTS 60 and 609; q, of DATES below 19, never comes to p's date. */
+    private static void mostToAgree() {
+        ParishYears x = Check.valleyOf("parish p 2 30 9 209;leap p 9 9;parish q 13 19 9 38;");
+        check.due("22 by 400", x.agree(0, 1), 400);
+        check.due("26 by 400", x.reform(), 400);
+        check.due("28 400 days, k 2", x.play(0, 1, 2), 1);
+        ParishYears y = Check.valleyOf("parish p 2 30 9 208;leap p 9 9;parish q 13 19 9 38;");
+        check.due("22 not by 401", y.agree(0, 1), -1);
+        check.due("26 not by 401", y.reform(), -1);
+        check.due("28 not 401 days", y.play(0, 1, 2), -1);
     }
 
     private static void match() {
@@ -327,6 +345,7 @@ public final class AheadTest {
         check.due("30 ahead of any", x.crowdOn(), -1);
         check.due("29 crowd(4)", x.crowd(4), 0);
         check.due("30 today", x.crowdOn(), 0);
+        check.due("29 crowd(0)", x.crowd(0), 0);
         check.due("29 crowd(5)", x.crowd(5), 2);
         check.due("30 crowdOn()", x.crowdOn(), 5);
         x.days(6);
@@ -387,10 +406,20 @@ public final class AheadTest {
         }
         // COUNT 10000; 390 to 398 were put in first, 3909 and on next, 7428 and on then
         check.due("32 far", Check.ago(y, 0, 13, 8, 255), 10000 - 390 - 2 * 3519 - 8);
-        check.due("32 at most 9999", Check.ago(y, 0, 0, 0, 0) <= 9999, true);
+        check.due("32 9999 back", Check.ago(allDaysBehind("parish p 13 30 7 389;leap p 9 9;"), 0, 13, 0, 5), 9999);
+        check.due("32 not 10000", Check.ago(allDaysBehind("parish p 13 30 7 390;leap p 9 9;"), 0, 13, 0, 5), -1);
         ParishYears z = Check.valleyOf("parish p 13 30 2 0;");
         z.days(1);
         check.due("32 none below COUNT 0", Check.ago(z, 0, 12, 255, 255), -1);
+    }
+
+    /** p's first day put in, COUNT 390, is of weekday 5; the next such one comes 7 * 3519 days later. */
+    private static ParishYears allDaysBehind(String text) {
+        ParishYears x = Check.valleyOf(text);
+        for (int i = 0; i < 11; i++) {
+            x.days(999);
+        }
+        return x;
     }
 
     private static void age() {
@@ -444,6 +473,10 @@ public final class AheadTest {
         ParishYears y = Check.valleyOf("parish p 13 30 9 391;leap p 9 9;");
         check.due("35 28 times", y.born(0, 28), 28 * 3519);
         check.due("35 not in 99999", y.born(0, 29), -1);
+        ParishYears z = Check.valleyOf("parish p 9 30 9 270;leap p 9 9;");
+        check.due("35 in 41 * 2439 days", z.born(0, 41), 99999);
+        z.hold(0);
+        check.due("35 in one day more", z.born(0, 42), -1);
     }
 
     private static void titled(ParishYears x, int p, String want) {
@@ -481,7 +514,8 @@ public final class AheadTest {
         check.due("39 odds(-1, 1, 1)", x.odds(-1, 1, 1), -1);
         check.due("39 odds(0, 0, 1)", x.odds(0, 0, 1), -1);
         check.due("39 odds(0, 31, 1)", x.odds(0, 31, 1), -1);
-        ParishYears y = Check.valleyOf("parish p 6 30 9 0;feast f p 1 10;feast g p 1 25;feast h p 0 0;parish q 2 2 2 0;");
+        ParishYears y = Check.valleyOf("parish p 6 30 9 0;parish q 2 2 2 0;"
+            + "feast f p 1 10;feast g p 1 25;feast h p 0 0;");
         for (int f = 0; f < 3; f++) {
             for (int n = 1; n <= 30; n += 29) {
                 int found = 0;
