@@ -103,11 +103,18 @@ public final class CalendarTest {
     }
 
     private static void bothWays() {
-        ParishYears x = Check.valleyOf("parish p 5 7 4 0;leap p 9 3;parish q 13 30 9 0;leap q 1 1;");
         for (int p = 0; p < 2; p++) {
-            for (int k = 0; k < 3000; k++) {
-                check.due("8 the COUNT of " + k, x.countOf(p, x.at(p, k, 0), x.at(p, k, 1), x.at(p, k, 2)), k);
+            for (int from = 0; from < 3000; from += 100) {
+                bothWays(p, from);
             }
+        }
+    }
+
+    /** A hundred days alone, as an object is used for 512 calls at most. */
+    private static void bothWays(int p, int from) {
+        ParishYears x = Check.valleyOf("parish p 5 7 4 0;leap p 9 3;parish q 13 30 9 0;leap q 1 1;");
+        for (int k = from; k < from + 100; k++) {
+            check.due("8 the COUNT of " + k, x.countOf(p, x.at(p, k, 0), x.at(p, k, 1), x.at(p, k, 2)), k);
         }
     }
 

@@ -8,7 +8,8 @@ import java.util.Random;
 /** Long runs of calls by a fixed seed: each answer is compared with the Oracle's, all promises mixed. */
 public final class OracleTest {
     private static final int RUNS = 1500;
-    private static final int CALLS = 500;
+    /** An object is used for 512 calls at most; a text, fed and read, takes 60 of them at most. */
+    private static final int CALLS = 512 - 60;
 
     private final Random random;
     private final Check check = new Check();
@@ -16,6 +17,8 @@ public final class OracleTest {
     private ParishYears x;
     private Oracle y;
     private StringBuilder run;
+    private int made;
+    private boolean differs;
 
     private OracleTest(long seed) {
         random = new Random(seed);
@@ -36,20 +39,18 @@ public final class OracleTest {
             x = new ParishYears();
             y = new Oracle();
             run = new StringBuilder();
+            made = 0;
             Texts texts = new Texts(random);
-            int made = 0;
-            while (made < CALLS) {
-                made += someText(texts);
-                int m = random.nextInt(ours.size());
-                if (ours.get(m).getName().equals("valley") && random.nextInt(20) > 0) {
-                    continue;
+            while (made < CALLS && !differs) {
+                someText(texts);
+                Method m = ours.get(random.nextInt(ours.size()));
+                if (!m.getName().equals("valley") || random.nextInt(20) == 0) {
+                    compare(m, arguments(m));
                 }
-                made++;
-                if (!same(ours.get(m), arguments(ours.get(m)))) {
-                    System.out.println("run " + i + " was:" + run);
-                    check.end();
-                    return;
-                }
+            }
+            if (differs) {
+                System.out.println("run " + i + " was:" + run);
+                break;
             }
         }
         check.end();
@@ -64,15 +65,18 @@ public final class OracleTest {
         }
     }
 
-    private boolean same(Method m, Object[] args) throws Exception {
+    private void compare(Method m, Object[] args) throws Exception {
+        if (differs) {
+            return;
+        }
         Method theirs = Oracle.class.getMethod(m.getName(), m.getParameterTypes());
         Object got = answer(x, m, args);
         Object want = answer(y, theirs, args);
+        made++;
         String call = m.getName() + List.of(args);
         run.append('\n').append(call).append(" = ").append(want);
-        boolean same = got.equals(want);
-        check.due(call + " (" + got + " for " + want + ")", same, true);
-        return same;
+        differs = !got.equals(want);
+        check.due(call + " (" + got + " for " + want + ")", differs, false);
     }
 
     private Object[] of(int... numbers) {
@@ -92,45 +96,38 @@ public final class OracleTest {
         throw new IllegalStateException(name);
     }
 
-    /** Now and then a text is fed and read, by the way of the calls themselves; answers how many calls that took. */
-    private int someText(Texts texts) throws Exception {
+    /** Now and then a text is fed and read, by the way of the calls themselves. */
+    private void someText(Texts texts) throws Exception {
         int what = y.count(0) == 0 ? random.nextInt(20) : random.nextInt(160);
         if (what > 12) {
-            return 0;
+            return;
         }
         if (what <= 1 || y.count(0) == 0) {
-            int made = feed(texts.valley());
-            same(named("valley"), of());
-            same(named("fault"), of());
-            return made + 2;
-        }
-        if (what <= 6) {
-            int made = feed(texts.book(y.now(0) > 9000));
-            same(named("book"), of(random.nextInt(10) == 0 ? 2 : random.nextInt(2)));
+            feed(texts.valley());
+            compare(named("valley"), of());
+            compare(named("fault"), of());
+        } else if (what <= 6) {
+            feed(texts.book(y.now(0) > 9000));
+            compare(named("book"), of(random.nextInt(10) == 0 ? 2 : random.nextInt(2)));
             for (int i = -1; i < 5; i++) {
-                same(named("told"), of(i));
+                compare(named("told"), of(i));
             }
-            return made + 7;
-        }
-        if (what <= 10) {
-            int made = feed(texts.sentence());
-            same(named("sentence"), of());
-            same(named("fault"), of());
+        } else if (what <= 10) {
+            feed(texts.sentence());
+            compare(named("sentence"), of());
+            compare(named("fault"), of());
             for (int i = -2; i < 5; i++) {
-                same(named("said"), of(i));
+                compare(named("said"), of(i));
             }
-            return made + 9;
-        }
-        if (what == 11) {
+        } else if (what == 11) {
             for (int i = 0; i < 9; i++) {
-                same(named("days"), of(999));
+                compare(named("days"), of(999));
             }
-            return 9;
+        } else {
+            feed(letter());
+            Method reader = named(random.nextBoolean() ? "wrote" : "ago");
+            compare(reader, arguments(reader));
         }
-        int made = feed(letter());
-        Method reader = named(random.nextBoolean() ? "wrote" : "ago");
-        same(reader, arguments(reader));
-        return made + 1;
     }
 
     private String letter() {
@@ -145,21 +142,18 @@ public final class OracleTest {
         return text.toString();
     }
 
-    private int feed(String text) throws Exception {
-        same(named("end"), of(0));
-        int made = 2;
+    private void feed(String text) throws Exception {
+        compare(named("end"), of(0));
         for (int from = 0; from < text.length(); from += 20) {
             int[] five = new int[5];
             for (int i = 0; i < 20; i++) {
                 int c = from + i < text.length() ? text.charAt(from + i) : random.nextInt(256);
                 five[i / 4] = five[i / 4] << 8 | c;
             }
-            same(named("feed"), of(five));
-            made++;
+            compare(named("feed"), of(five));
         }
-        same(named("end"), of(text.length()));
-        same(named("count"), of(4));
-        return made;
+        compare(named("end"), of(text.length()));
+        compare(named("count"), of(4));
     }
 
     private int wild() {
