@@ -5,6 +5,8 @@
  */
 final class ActEdges {
     private static final String TWO = "parish p 2 3 3 0;parish q 2 3 3 1;";
+    private static final String FIVE = "parish a 2 2 2 1;parish b 2 2 2 2;parish c 2 2 2 3;parish d 2 2 2 4;"
+        + "parish e 2 2 2 5;";
 
     private final Edges e;
 
@@ -186,6 +188,29 @@ final class ActEdges {
         e.due("days HELD so far", x.parish(0, 7), 0);
         e.due("hold() that was undone", x.hold(0), 0);
         e.due("it can be undone", x.undo(), 0);
+        undoOfAll();
+    }
+
+    private void undoOfAll() {
+        ParishYears x = Check.valleyOf(FIVE);
+        Check.book(x, "a skips 10;b skips 20;c skips 30;d skips 40;e skips 50;a holds;b holds;c holds;d holds;e holds;",
+            1);
+        x.days(3);
+        x.undo();
+        for (int p = 0; p < 5; p++) {
+            allOf(x, p, 11 * p + 11, 1, 10 * p + 10);
+        }
+        x.undo();
+        for (int p = 0; p < 5; p++) {
+            allOf(x, p, p + 1, 0, 0);
+        }
+    }
+
+    private void allOf(ParishYears x, int p, int count, int held, int skipped) {
+        e.due("COUNT of PARISH " + p, x.parish(p, 5), count);
+        e.due("HELD of PARISH " + p, x.parish(p, 6), held);
+        e.due("days HELD of PARISH " + p, x.parish(p, 7), held);
+        e.due("days SKIPPED of PARISH " + p, x.parish(p, 8), skipped);
     }
 
     private void undoKept() {
@@ -390,6 +415,18 @@ final class ActEdges {
         x.days(5);
         e.due("restore(0) once more", x.restore(0), true);
         e.due("the DAY", x.now(0), 3);
+        ParishYears five = Check.valleyOf(FIVE + "feast f a 0 0;feast g b 0 1;feast h c 1 0;feast i d 1 1;feast j e 0 0;"
+            + "feast k a 0 1;");
+        Check.book(five, "a skips 10;b skips 20;c skips 30;d skips 40;e skips 50;a holds;b holds;c holds;d holds;"
+            + "e holds;", 1);
+        five.image(0);
+        Check.valley(five, "");
+        five.restore(0);
+        for (int p = 0; p < 5; p++) {
+            allOf(five, p, 11 * p + 11, 1, 10 * p + 10);
+            e.due("FEAST " + p, five.feast(p, 0), p);
+        }
+        e.due("FEAST 5", five.feast(5, 2), 1);
         ParishYears empty = new ParishYears();
         empty.image(1);
         Check.valley(empty, TWO);

@@ -227,6 +227,7 @@ final class LetterEdges {
         e.due("born(0, 99), HELD", x.born(0, 99), 393);
         x.days(1);
         e.due("born(0, 99)", x.born(0, 99), 396);
+        e.due("born(0, 100)", x.born(0, 100), -1);
         e.due("born(1, 99)", x.born(1, 99), 99 * 37);
     }
 
@@ -277,6 +278,17 @@ final class LetterEdges {
         x.days(2);
         titled(x, 0, "p year 1 month 0 day 0");
         titled(x, 1, "village year 1 month 0 day 13");
+        ParishYears tens = Check.valleyOf("parish p 13 30 9 40;parish q 13 30 9 310;parish r 2 2 2 0;");
+        titled(tens, 0, "p year 0 month 1 day 10");
+        titled(tens, 1, "q year 0 month 10 day 10");
+        tens.days(40);
+        titled(tens, 2, "r year 10 month 0 day 0");
+        tens.days(360);
+        titled(tens, 2, "r year 100 month 0 day 0");
+        Late.goTo(tens, 4000);
+        titled(tens, 2, "r year 1000 month 0 day 0");
+        tens.days(4);
+        titled(tens, 2, "r year 1001 month 0 day 0");
         e.of(36, "TITLE of a PARISH: how many bytes;");
         ParishYears late = Check.valleyOf("parish village 2 2 2 999;");
         for (int i = 0; i < 90; i++) {

@@ -166,8 +166,8 @@ final class SentenceEdges {
     private void figures() {
         e.of(43, "| ( 'year' | 'month' | 'date' | 'week' | 'number' ) SIGN NUMBER (what today is called; the weekday; its "
             + "number).");
-        ParishYears x = Late.valleyOn(VALLEY, 7);
-        // oak: COUNT 7: 0 2 1, weekday 1. elm: COUNT 8: 1 1 0, weekday 0. ash: COUNT 13: 2 0 1, weekday 1.
+        ParishYears x = Late.valleyOn("parish oak 2 3 3 0;leap oak 2 2;parish elm 3 2 2 1;parish ash 2 3 5 6;", 7);
+        // oak: COUNT 7: 0 2 1, weekday 1. elm: COUNT 8: 1 1 0, weekday 0. ash: COUNT 13: 2 0 1, weekday 3.
         said(x, "year = 0", 1);
         said(x, "year = 1", 2);
         said(x, "year = 2", 4);
@@ -176,8 +176,9 @@ final class SentenceEdges {
         said(x, "month = 0", 4);
         said(x, "date = 1", 5);
         said(x, "date = 0", 2);
-        said(x, "week = 1", 5);
+        said(x, "week = 1", 1);
         said(x, "week = 0", 2);
+        said(x, "week = 3", 4);
         said(x, "number = 0", 1);
         said(x, "number = 1", 2);
         said(x, "number = 2", 4);
@@ -249,6 +250,12 @@ final class SentenceEdges {
         Check.sentence(x, "not number < 4");
         e.due("said(0) of the one now", x.said(0), 4);
         e.due("said(-1) of the one now", x.said(-1), 1);
+        said(x, "held or ".repeat(19) + "number=4", 16);
+        said(x, "not held and number<9 and ".repeat(6) + "number<4 and number>2", 8);
+        said(x, "number<1 and(number<2 or(number<3 and(number<4 or(number<5 and(number<6 or(number<7))))))", 1);
+        for (int p = 0; p < 5; p++) {
+            said(x, "held or ".repeat(19) + "number=" + p, 1 << p);
+        }
         e.of(42, "-1 less the place of a FAULT:");
         faulty("?", 1, 0);
         faulty("held and held)", 1, 13);

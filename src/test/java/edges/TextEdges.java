@@ -65,6 +65,8 @@ final class TextEdges {
         e.due("next(0)", x.next(0), -1);
         e.due("now(0)", x.now(0), 0);
         e.due("now(1)", x.now(1), 0);
+        e.due("count(2)", x.count(2), 365);
+        e.due("count(3)", x.count(3), 1);
         e.of(1, "an empty tape.");
         e.due("count(4)", x.count(4), 0);
         e.due("end(1)", x.end(1), false);
@@ -121,6 +123,12 @@ final class TextEdges {
         e.due("count(4)", x.count(4), 8);
         e.due("valley() of the first 8", x.valley(), 1);
         e.due("count(2)", x.count(2), 7);
+        x.feed(0x73756e20, 0x38203939, 0x3b3b3b3b, 0, 0);
+        e.due("end(7) of 'sun 8 99', in a NUMBER", x.end(7), true);
+        e.due("valley() of 'sun 8 9'", x.valley(), -1 - 7);
+        x.feed(0x68656c64, 0x68656c64, 0, 0, 0);
+        e.due("end(4) of 'heldheld'", x.end(4), true);
+        e.due("sentence() of 'held'", x.sentence(), 1);
         Check.tape(x, "?");
         e.due("end(0)", x.end(0), true);
         e.due("valley() of none", x.valley(), 0);
@@ -261,11 +269,14 @@ final class TextEdges {
         faulty("parish { 2 3 2 0;", 1, 7);
         faulty("parish " + (char) 225 + " 2 3 2 0;", 1, 7);
         faulty("suns 1 1;", 1, 0);
+        faulty("a".repeat(940), 1, 0);
         faulty("parishpp 2 3 2 0;", 1, 0);
         e.of(4, "NUMBERS: 1 to 3 digits;");
         sound("sun 1 1;", 1);
         sound("sun 001 030;", 1);
         faulty("sun 0001 1;", 1, 4);
+        faulty("1".repeat(940), 1, 0);
+        faulty("sun " + "1".repeat(936), 1, 4);
         faulty("sun 1 0001;", 1, 6);
         faulty("sun 1000 1;", 1, 4);
         faulty("sun / 1;", 1, 4);
@@ -381,6 +392,11 @@ final class TextEdges {
         e.due("EVERY", y.parish(0, 4), 1);
         e.due("MONTH of COUNT 4 without", y.at(0, 4, 1), 0);
         e.due("MONTH of COUNT 4 with", y.at(1, 4, 1), 2);
+        e.due("valley() with the same PARISHES and the other's 'leap'",
+            Check.valley(y, "parish p 2 2 2 0;parish q 2 2 2 0;leap p 2 3;"), 3);
+        e.due("days put in, told once in the VALLEY before", y.parish(1, 3), 0);
+        e.due("EVERY", y.parish(1, 4), 1);
+        e.due("MONTH of COUNT 4 without", y.at(1, 4, 1), 0);
     }
 
     private void feastLine() {
@@ -446,8 +462,9 @@ final class TextEdges {
         faulty(P + "feast f p 0 0;feast f p 0 0;", 3, 37);
         faulty(P + "feast f p 0 0;parish f 2 2 2 0;", 3, 38);
         sound(P + "parish pp 2 2 2 0;feast ppp pp 0 0;", 3);
-        ParishYears x = Check.valleyOf(P);
-        e.due("a NAME of the VALLEY before", Check.valley(x, P), 1);
+        ParishYears x = Check.valleyOf(P + "feast f p 0 0;");
+        e.due("the NAMES of the VALLEY before", Check.valley(x, P + "feast f p 0 0;"), 2);
+        e.due("the NAMES of the VALLEY before", Check.valley(x, "parish f 2 2 2 0;feast p f 0 0;"), 2);
     }
 
     private void numbers() {
@@ -577,6 +594,11 @@ final class TextEdges {
         e.due("its FAULT", x.fault(), 3);
         e.due("sentence(): 'with' a FEAST", Check.sentence(x, "with f"), -1 - 5);
         e.due("its FAULT", x.fault(), 3);
+        ParishYears full = Check.valleyOf(FIVE + SIX);
+        e.due("sentence(): 'keeps' none of six", Check.sentence(full, "keeps none"), -1 - 6);
+        e.due("its FAULT", full.fault(), 3);
+        e.due("sentence(): 'with' none of five", Check.sentence(full, "with none"), -1 - 5);
+        e.due("its FAULT", full.fault(), 3);
         e.of(4, "a second 'leap' of a PARISH (at the PARISH), 'sun' told again (at the WORD);");
         faulty(P + "leap p 1 1;leap   p 0", 3, 35);
         faulty(P + "sun 1 1;leap p 1 1;leap p 1 1;", 3, 41);
@@ -618,6 +640,18 @@ final class TextEdges {
         x.days(999);
         e.due("valley() of none", Check.valley(x, ""), 0);
         e.due("the DAY", x.now(0), 0);
+        ParishYears five = Check.valleyOf(FIVE);
+        for (int p = 0; p < 5; p++) {
+            five.hold(p);
+            five.skip(p, 9);
+        }
+        Check.valley(five, "parish a 2 2 2 1;parish b 2 2 2 2;parish c 2 2 2 3;parish d 2 2 2 4;parish e 2 2 2 5;");
+        for (int p = 0; p < 5; p++) {
+            e.due("COUNT of PARISH " + p, five.parish(p, 5), p + 1);
+            e.due("HELD of PARISH " + p, five.parish(p, 6), 0);
+            e.due("days HELD of PARISH " + p, five.parish(p, 7), 0);
+            e.due("days SKIPPED of PARISH " + p, five.parish(p, 8), 0);
+        }
     }
 
     private void count() {

@@ -286,10 +286,22 @@ final class YearEdges {
         e.due("now(4)", x.now(4), 16);
         e.due("now(5)", x.now(5), 2);
         e.due("now(6)", x.now(6), 13);
+        x.skip(0, 5);
+        x.hold(2);
+        // a's COUNT 5 is DATE 1 of MONTH 0, weekday 1
+        e.due("now(1)", x.now(1), 21);
+        e.due("now(2)", x.now(2), 2 | 4 | 8 | 32);
+        e.due("now(3)", x.now(3), 4 | 16);
+        e.due("now(5)", x.now(5), 3);
+        e.due("now(6)", x.now(6), 18);
+        ParishYears first = Check.valleyOf("parish a 2 2 3 4;leap a 1 1;parish b 2 2 2 1;feast f b 0 0;");
+        e.due("now(2), none", first.now(2), 0);
+        e.due("now(3), none", first.now(3), 0);
+        e.due("now(4), the first", first.now(4), 1);
         Late.goTo(x, 10000);
         e.due("now(0) when all are over", x.now(0), 10000);
         e.due("now(1) then", x.now(1), 0);
-        e.due("now(5) then", x.now(5), 2);
+        e.due("now(5) then", x.now(5), 3);
         e.of(10, "NONE for another what.");
         e.due("now(7)", x.now(7), -1);
         e.due("now(-1)", x.now(-1), -1);
