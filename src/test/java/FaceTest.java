@@ -1,34 +1,52 @@
+import java.io.IOException;
 import java.lang.reflect.Constructor;
 import java.lang.reflect.Field;
 import java.lang.reflect.Method;
 import java.lang.reflect.Modifier;
-import java.util.ArrayList;
-import java.util.Arrays;
-import java.util.List;
+import java.nio.file.Files;
+import java.nio.file.Path;
 import java.util.TreeSet;
 
 /** The class has the document's face and nothing else that can be seen from outside (LANGUAGE.md, rules 1 and 5). */
 public final class FaceTest {
-    private static final String[] FACE = {
-        "int feed(int,int,int,int,int)", "boolean end(int)", "int valley()", "int fault()", "int parish(int,int)",
-        "int at(int,int,int)", "int countOf(int,int,int,int)", "int feast(int,int)", "int now(int)", "int hold(int)",
-        "int skip(int,int)", "int days(int)", "int undo()", "int next(int)", "int falls(int,int)", "int meet(int,int)",
-        "int fair(int)", "int drift(int,int)", "int tune(int,int)", "int tuned()", "int agree(int,int)",
-        "int agreeing()", "int match(int,int,int)", "int matchOn()", "int reform()", "int reformTo()",
-        "int play(int,int,int)", "int crowd(int)", "int crowdOn()", "int wrote()", "int ago(int)",
-        "int age(int,int,int,int)", "int ask()", "int born(int,int)", "int title(int)", "int byteAt(int)",
-        "int drawn(int,int)", "int odds(int,int,int)", "int book(int)", "int told(int)", "int sentence()",
-        "int said(int)", "boolean image(int)", "boolean restore(int)", "int count(int)"
-    };
+    private static final Path DOCUMENT = Path.of("..", "shared", "DOC.md");
+    private static final int CALLS = 45;
 
-    public static void main(String[] args) {
-        Check check = new Check();
+    private final Check check = new Check();
+    private final TreeSet<String> names = new TreeSet<>();
+
+    private FaceTest() {
+    }
+
+    public static void main(String[] args) throws IOException {
+        new FaceTest().compareAll();
+    }
+
+    private void compareAll() throws IOException {
         Class<?> c = ParishYears.class;
         check.due("public final", Modifier.isPublic(c.getModifiers()) && Modifier.isFinal(c.getModifiers()), true);
         check.due("no package", c.getPackageName().isEmpty(), true);
-        TreeSet<String> want = new TreeSet<>(Arrays.asList(FACE));
+        check.due("nothing above it", c.getSuperclass() == Object.class && c.getInterfaces().length == 0, true);
+        check.due("NONE", ParishYears.NONE, -1);
+        face(c);
+        fields(c);
+        check.due("one constructor", c.getDeclaredConstructors().length, 1);
+        for (Constructor<?> k : c.getDeclaredConstructors()) {
+            check.due("public, without arguments, throwing nothing", Modifier.isPublic(k.getModifiers())
+                && k.getParameterCount() == 0 && k.getExceptionTypes().length == 0, true);
+        }
+        for (Class<?> inner : c.getDeclaredClasses()) {
+            int m = inner.getModifiers();
+            check.due(inner + " is static and not public", Modifier.isStatic(m) && !Modifier.isPublic(m), true);
+            hiddenMethods(inner);
+        }
+        hiddenMethods(c);
+        check.end();
+    }
+
+    /** What is told by the class is what is written in the document, with what a call may throw. */
+    private void face(Class<?> c) throws IOException {
         TreeSet<String> got = new TreeSet<>();
-        List<String> names = new ArrayList<>();
         for (Method m : c.getDeclaredMethods()) {
             if (!Modifier.isPrivate(m.getModifiers())) {
                 check.due(m + " is public", Modifier.isPublic(m.getModifiers()), true);
@@ -37,11 +55,37 @@ public final class FaceTest {
                 names.add(m.getName());
             }
         }
+        TreeSet<String> want = inTheDocument();
+        check.due("calls in the document", want.size(), CALLS);
         check.due("the face is " + got + " for " + want, got.equals(want), true);
-        for (Method m : c.getDeclaredMethods()) {
-            check.due(m + " bears a public name", Modifier.isPrivate(m.getModifiers()) && names.contains(m.getName()),
-                false);
+    }
+
+    private static TreeSet<String> inTheDocument() throws IOException {
+        TreeSet<String> face = new TreeSet<>();
+        String all = Files.readString(DOCUMENT);
+        int from = all.indexOf("public final class ParishYears {");
+        for (String line : all.substring(from, all.indexOf("```", from)).split("\n")) {
+            String call = line.trim();
+            if (call.matches("public \\w+ \\w+\\(.*\\).*;")) {
+                face.add(call.replaceAll("^public |;$", "").replaceAll("int \\w+(?=[,)])", "int"));
+            }
         }
+        return face;
+    }
+
+    private static String told(Method m) {
+        StringBuilder text = new StringBuilder(m.getReturnType().getName()).append(' ').append(m.getName()).append('(');
+        for (int i = 0; i < m.getParameterCount(); i++) {
+            text.append(i == 0 ? "" : ", ").append(m.getParameterTypes()[i].getName());
+        }
+        text.append(')');
+        for (Class<?> thrown : m.getExceptionTypes()) {
+            text.append(" throws ").append(thrown.getSimpleName());
+        }
+        return text.toString();
+    }
+
+    private void fields(Class<?> c) {
         for (Field f : c.getDeclaredFields()) {
             boolean none = f.getName().equals("NONE");
             check.due(f + " is hidden", none ? Modifier.isPublic(f.getModifiers())
@@ -49,23 +93,13 @@ public final class FaceTest {
             check.due(f + " may be static", !Modifier.isStatic(f.getModifiers()) || Modifier.isFinal(f.getModifiers()),
                 true);
         }
-        check.due("one constructor", c.getDeclaredConstructors().length, 1);
-        for (Constructor<?> k : c.getDeclaredConstructors()) {
-            check.due("public, without arguments", Modifier.isPublic(k.getModifiers()) && k.getParameterCount() == 0,
-                true);
-        }
-        for (Class<?> inner : c.getDeclaredClasses()) {
-            int m = inner.getModifiers();
-            check.due(inner + " is static and not public", Modifier.isStatic(m) && !Modifier.isPublic(m), true);
-        }
-        check.end();
     }
 
-    private static String told(Method m) {
-        StringBuilder text = new StringBuilder(m.getReturnType().getName()).append(' ').append(m.getName()).append('(');
-        for (int i = 0; i < m.getParameterCount(); i++) {
-            text.append(i == 0 ? "" : ",").append(m.getParameterTypes()[i].getName());
+    /** In the classes inside, too: there a public name would be as misleading. */
+    private void hiddenMethods(Class<?> c) {
+        for (Method m : c.getDeclaredMethods()) {
+            check.due(m + " bears a public name", Modifier.isPrivate(m.getModifiers()) && names.contains(m.getName()),
+                false);
         }
-        return text.append(')').toString();
     }
 }
